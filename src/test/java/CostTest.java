@@ -72,6 +72,18 @@ final class CostTest {
         y.shut(0, true);
         DUE.due("one alone", y.far(), -9);
         DUE.due("no streets", new OneWayTillNoon().far(), -3);
+        OneWayTillNoon z = Due.townOf("k3;s01,1;s12,1;s20,1;s01,60;", "m0,0;m1,0;m2,0;");
+        DUE.due("at minute 0 itself", z.set(0, 1), 720);
+        DUE.due("the last one back or not", z.far(), 0);
+        Due.told(z, "s10,2;");
+        DUE.due("short ways back", z.far(), 0);
+        Due.told(z, "m4,1;m3,1;");
+        DUE.due("by musts", z.far(), 8 + 16);
+        OneWayTillNoon w = Due.townOf("k2;s01,1b;s01,9;s01,5;", "m1,0;");
+        w.set(1, 2);
+        w.set(0, 1);
+        w.set(2, 10);
+        DUE.due("as it points at 0", w.far(), 1);
     }
 
     private static void turned() {
@@ -165,6 +177,14 @@ final class CostTest {
         DUE.due("eleven", x.days(11, 0), -6);
         DUE.due("no errands", new OneWayTillNoon().days(10, -1), 0);
         DUE.due("refusals", x.count(14) + x.count(16), 2);
+        OneWayTillNoon y = Due.townOf("k2;s01,10;e10@0,1;");
+        DUE.due("drawn 563, 777, 1206, 1139", y.days(4, 0), 730 - 563 + 3 * 10);
+        DUE.due("drawn 1305, 453, 609, 90", y.days(4, 1), 10 + 3 * 730 - 453 - 609 - 90);
+        DUE.due("drawn 1217, 307, 343, 1404", y.days(4, -3), 10 + 2 * 730 - 307 - 343 + 10);
+        DUE.due("without its sign's bit", y.days(4, Integer.MIN_VALUE), 730 - 563 + 3 * 10);
+        y.set(1, 3);
+        y.set(3, 1);
+        DUE.due("an odd day stays one", y.days(4, 0), 10 + 3 * 3000);
     }
 
     private static void manyStreets() {

@@ -93,6 +93,12 @@ final class PlanTest {
     private static void walks() {
         duePlan("k5;s10,1;s21,1;s20,1;s32,1;s34,1;", 0, 8 + 16, 1 + 2 + 8);
         duePlan("k4;s32,1;", 0, 1, 0);
+        duePlan("k10;s98,1;s87,1;s76,1;s65,1;s54,1;s43,1;s32,1;s21,1;s10,1;", 0, 511, 511);
+        OneWayTillNoon x = Due.townOf("k10;s98,1;s87,1;s76,1;s65,1;s54,1;s43,1;s32,1;s21,1;s10,1;", "s90,1;s90,1;s19,1;s91,1;s59,1;");
+        DUE.due("fourteen streets and ten corners: walk", x.walk(), 511 + 2048 + 8192);
+        DUE.due("fourteen streets and ten corners: bridges", x.bridges(), 0);
+        DUE.due("fourteen streets and ten corners: can", x.can(), 1);
+        DUE.due("hanging together elsewhere than at 0", Due.townOf("k3;s12,1;s12,1;").can(), 0);
         duePlan("k4;s02,1;s01,1;s12,1;s32,1;s31,1;", 1, 0, 2 + 4 + 16);
     }
 
@@ -131,6 +137,8 @@ final class PlanTest {
         DUE.due("at minute 0 noon is past", rowed(x, 2, 1, 0), 20 + 4 + 30);
         x.shut(3, true);
         DUE.due("a shut one", rowed(x, 2, 1, 0), 20 + 7 + 30);
+        x.set(0, 1);
+        DUE.due("at minute 0 itself", rowed(x, 0, 1, 2), 7 + 20 + 30);
         OneWayTillNoon y = Due.townOf("k2;s01,7b;");
         DUE.due("one way", rowed(y, 0, 1), -9);
         y.set(1, 1);
@@ -151,6 +159,8 @@ final class PlanTest {
         DUE.due("2 can not be come to from 0", x.judge(), 102);
         x.set(0, 0);
         DUE.due("at minute 0, as it points then", x.judge(), 101);
+        x.set(0, 1);
+        DUE.due("at minute 0 itself", x.judge(), 102);
         x.point(0);
         DUE.due("round", x.judge(), -9);
         Due.told(x, "k10;");

@@ -13,6 +13,7 @@ final class WaysTest {
         soonestWays();
         lastMinutes();
         roads();
+        longRoads();
         refused();
         DUE.end();
     }
@@ -153,6 +154,19 @@ final class WaysTest {
         x.point(1 << 5);
         dueRoad(x, new int[] {0, 4, 0}, 60, 0, 1, 2, 6);
         dueRoad(x, new int[] {0, 4, 711}, 722, 0, 0, 5);
+    }
+
+    private static void longRoads() {
+        OneWayTillNoon x = Due.townOf("k10;s01,1;s12,2;s23,3;s34,4;s45,5;s56,6;s67,7;s78,8;s89,9;");
+        dueRoad(x, new int[] {0, 9, 5}, 50, 0, 0, 1, 2, 3, 4, 5, 6, 7, 8);
+        dueRoad(x, new int[] {9, 0, 5}, 765, 715, 8, 7, 6, 5, 4, 3, 2, 1, 0);
+        x.set(1, 2);
+        x.set(2, 10);
+        dueRoad(x, new int[] {0, 9, 715}, 779, 9 + 5 + 5, 0, 1, 2, 3, 4, 5, 6, 7, 8);
+        DUE.due("by way alone", x.way(0, 731), 0);
+        DUE.due("a way asked first of all", Due.townOf(RING).waited(1, 0, 710), 10);
+        DUE.due("a road asked first of all", Due.townOf(RING).road(1, 0, 710, 0), 0);
+        DUE.due("a soonest asked first of all", Due.townOf(RING).soonest(1, 0, 710), 730);
     }
 
     private static void refused() {
