@@ -862,8 +862,8 @@ public final class OneWayTillNoon {
         }
 
         private void goAlong(int street, int to, int entry) {
-            if (entry != NEVER) {
-                soonestAt[to] = Math.min(soonestAt[to], entry + town.minutes[street]);
+            if (entry != NEVER && entry + town.minutes[street] < soonestAt[to]) {
+                soonestAt[to] = entry + town.minutes[street];
             }
         }
     }

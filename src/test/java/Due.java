@@ -2,16 +2,53 @@
 final class Due {
     private int looked;
     private int wrong;
+    private String sentence = "";
+    private int lookedAhead = -1;
+
+    /** The rows behind it are those of one bit of a sentence, word by word as the document has it. */
+    void says(int promise, String words) {
+        endSentence();
+        sentence = (promise == Document.TERMS ? "terms" : "promise " + promise) + " \"" + words + "\": ";
+        lookedAhead = looked;
+        if (!Document.section(promise).contains(words)) {
+            wrong++;
+            System.out.println(sentence + "the document does not say so");
+        }
+    }
+
+    private void endSentence() {
+        if (looked == lookedAhead) {
+            wrong++;
+            System.out.println(sentence + "no row looks at it");
+        }
+    }
 
     void due(String call, long got, long want) {
         looked++;
         if (got != want) {
             wrong++;
-            System.out.println(call + " answered " + got + ", due is " + want);
+            System.out.println(sentence + call + " answered " + got + ", due is " + want);
         }
     }
 
+    void same(String what, String got, String want) {
+        looked++;
+        if (!got.equals(want)) {
+            wrong++;
+            int place = 0;
+            while (place < got.length() && place < want.length() && got.charAt(place) == want.charAt(place)) {
+                place++;
+            }
+            System.out.println(sentence + what + " answered .. " + from(got, place) + ", due is .. " + from(want, place));
+        }
+    }
+
+    private static String from(String text, int place) {
+        return text.substring(Math.max(0, place - 40), Math.min(text.length(), place + 40));
+    }
+
     void end() {
+        endSentence();
         System.out.println(looked + " answers looked at, " + wrong + " not as due");
         if (wrong != 0 || looked == 0) {
             System.exit(1);
@@ -38,6 +75,10 @@ final class Due {
     static int told(OneWayTillNoon x, String text) {
         fed(x, text);
         return x.town();
+    }
+
+    static int toldNew(String text) {
+        return told(new OneWayTillNoon(), text);
     }
 
     static OneWayTillNoon townOf(String... texts) {

@@ -6,7 +6,9 @@ import java.lang.reflect.Modifier;
 import java.nio.file.Files;
 import java.nio.file.Path;
 import java.util.ArrayList;
+import java.util.HashMap;
 import java.util.List;
+import java.util.Map;
 import java.util.Set;
 import java.util.TreeSet;
 import java.util.regex.Matcher;
@@ -20,6 +22,9 @@ final class FaceTest {
     private static final int MOST_PARAMETERS = 7;
     private static final int MOST_CLASSES = 12;
     private static final int MOST_FIELDS = 20;
+    private static final int MOST_DEPTH = 8;
+    private static final String HEAD = " +(public |private |static )*[\\w\\[\\]]+ ?(\\w*)\\(.*\\) \\{";
+    private static final Pattern CALL = Pattern.compile("\\b(\\w+)\\(");
     private static final Due DUE = new Due();
 
     private FaceTest() { }
@@ -30,6 +35,7 @@ final class FaceTest {
         classes();
         words(source);
         methodLengths(source);
+        callDepths(source);
         DUE.end();
     }
 
@@ -124,7 +130,7 @@ final class FaceTest {
         String end = "";
         String[] lines = source.split("\n");
         for (int i = 0; i < lines.length; i++) {
-            if (lines[i].matches(" +(public |private |static )*[\\w\\[\\]]+ ?\\w*\\(.*\\) \\{") && !lines[i].matches(" +(if|for|while|switch|else).*")) {
+            if (isHead(lines[i])) {
                 begun = i;
                 end = lines[i].replaceAll("\\S.*", "") + "}";
             } else if (begun >= 0 && lines[i].equals(end)) {
@@ -132,5 +138,38 @@ final class FaceTest {
                 begun = -1;
             }
         }
+    }
+
+    private static boolean isHead(String line) {
+        return line.matches(HEAD) && !line.matches(" +(if|for|while|switch|else).*");
+    }
+
+    /** By names alone: methods of one name count as one, so no chain of calls is missed. */
+    private static void callDepths(String source) {
+        Map<String, Set<String>> calls = new HashMap<>();
+        String method = "";
+        for (String line : source.replaceAll("(?s)/\\*.*?\\*/", "").split("\n")) {
+            boolean head = isHead(line);
+            method = head ? line.replaceFirst(HEAD, "$2") : method;
+            Matcher call = CALL.matcher(head ? "" : line);
+            while (call.find()) {
+                calls.computeIfAbsent(method, name -> new TreeSet<>()).add(call.group(1));
+            }
+        }
+        DUE.due("methods that call others", calls.size() > 30 ? 1 : 0, 1);
+        for (String name : calls.keySet()) {
+            int depth = depthOf(name, calls, 1);
+            DUE.due(name + " goes " + depth + " deep, too deep", depth > MOST_DEPTH ? 1 : 0, 0);
+        }
+    }
+
+    private static int depthOf(String name, Map<String, Set<String>> calls, int open) {
+        int deepest = open;
+        if (open <= MOST_DEPTH) {
+            for (String called : calls.getOrDefault(name, Set.of())) {
+                deepest = Math.max(deepest, depthOf(called, calls, open + 1));
+            }
+        }
+        return deepest;
     }
 }
