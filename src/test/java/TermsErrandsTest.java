@@ -190,6 +190,15 @@ final class TermsErrandsTest {
         String line = "k9;s01,1;s12,1;s23,1;s34,1;s45,1;s56,1;s67,1;s78,1;";
         DUE.due("eight rounds, the last one first", Due.townOf(line, "e80@0,1;").turning(), 255);
         DUE.due("one round is enough", Due.townOf("k4;s10,1;s21,1;s32,1;e03@0,1;").turning(), 7);
+        OneWayTillNoon x = Due.townOf("k10;s69,59;s78,60;s96,5;s28,10;s72,55;s52,24;s34,34;s03,14;",
+                "s25,44;s51,5;s97,50;s06,31;s78,59;s78,7;e14@402,8;e25@1287,4;");
+        x.set(0, 965);
+        x.set(1, TWICE);
+        x.set(2, 59);
+        x.point(8320);
+        DUE.due("a town of twenty-four rounds: the pointing after twenty", x.turning(), 2036);
+        x.point(2036);
+        DUE.due("the four that were left", x.turning(), 11793);
         DUE.due("no streets", new OneWayTillNoon().turning(), 0);
         DUE.due("eleven streets", Due.townOf(TEN, "s01,8;s01,7;e10@0,1;").turning(), 1 + 512 + 1024);
     }
@@ -271,6 +280,8 @@ final class TermsErrandsTest {
         x.set(0, 0);
         DUE.due("from noon on", x.lives(), 2);
         DUE.due("errands stay", x.errand(0, 0), 0);
+        DUE.due("ten corners, none without cost", Due.townOf("k10;e01@0,1;e02@0,1;e09@0,1;").lives(), 1);
+        DUE.due("eight errands", Due.townOf("k2;e01@0,1;e01@0,1;e01@0,1;e10@0,1;e10@0,1;e10@0,1;e01@0,1;", "e01@0,1;").lives(), 1);
         DUE.due("each at its own minute", Due.townOf("k2;s01,10;e01@720,1;e10@0,1;").lives(), 1);
         DUE.due("never is 3000", Due.townOf("k4;s01,60;s02,60;e31@0,1;e32@0,1;").lives(), 0);
     }

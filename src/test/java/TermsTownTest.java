@@ -294,6 +294,8 @@ final class TermsTownTest {
         DUE.due("at minute 0", x.judge(), 110);
         x.set(0, 0);
         DUE.due("at minute 0, when noon is past", x.judge(), 101);
+        x.set(0, 1);
+        DUE.due("at minute 0, when noon is at 1", x.judge(), 110);
         x.set(1, BOTH);
         DUE.due("by a rule", x.judge(), -9);
         x.shut(0, true);
